@@ -208,6 +208,28 @@ public final class PromiseTest {
         appendFortyWays(x);
         due("41 ways of one", x.explore(1), -2);
         due("41 ways of one: none is there", x.inputs(0), -1);
+        due("41 ways of the first one", x.explore(2), -2);
+        manyExplorations();
+    }
+
+    /** What earlier explorations met must not count in a later one. */
+    private static void manyExplorations() {
+        ContractProbe x = new ContractProbe();
+        for (int marks = 0; marks <= 28; marks++) {
+            x.clear();
+            for (int i = 0; i < marks; i++) {
+                x.add(MARK, 1);
+            }
+            append(x, INPUT, 0, ASSERT, 0, CALLER, 0, ASSERT, 0);
+            x.start(0, 40);
+            due("three ways behind " + marks + " marks", x.explore(1), 3);
+            due("nine paths behind " + marks + " marks", x.explore(2), 9);
+        }
+        due("the finding of the last one", x.finding(0, 29), 0);
+        x.clear();
+        due("no code", x.explore(1), 1);
+        due("no code: finding", x.finding(0, 29), -1);
+        due("no code: risk", x.risk(0, 0, 29), 0);
     }
 
     /** Inputs go to marks of their own: the lowest destroy, some stop, the others have no mark and fault. */
@@ -332,18 +354,30 @@ public final class PromiseTest {
         due("the second one works: cell", undone.left(1, 0), 25);
         due("the second one works: balance", undone.left(1, 4), 17);
         due("both work: balance", undone.left(3, 4), 17);
-        witnessIsNotMetFirst();
+        leftForTheWitness();
     }
 
-    /** The state of the first one is that of number 0 again for higher numbers, which must not win. */
-    private static void witnessIsNotMetFirst() {
-        ContractProbe x = with(INPUT, 0, PUSH, 1, AND, 0, PUSH, 0, STORE, 0, INPUT, 0, PUSH, 1, STORE, 0);
-        append(x, PUSH, 0, LOAD, 0, PUSH, 3, BRANCH, 0, MARK, 3);
+    /** Which input numbers go a path may be found in any order: the least one's words count. */
+    private static void leftForTheWitness() {
+        ContractProbe x = with(INPUT, 0, PUSH, 1, AND, 0, PUSH, 0, STORE, 0, CALLER, 0, PUSH, 1, STORE, 0);
+        append(x, INPUT, 0, PUSH, 4, LESS, 0, ASSERT, 0, PUSH, 0, LOAD, 0, ASSERT, 0);
         x.start(0, 40);
-        due("one path", x.explore(2), 1);
-        due("its witness", x.witness(0), 0);
-        due("its cell 0", x.left(0, 0), 0);
-        due("its cell 1", x.left(0, 1), 0);
+        due("three ends of each", x.explore(2), 9);
+        int[] witnesses = {0, 4, 16, 256, 260, 272, 1024, 1028, 1040};
+        int[] cell0 = {16, 17, 16, 17, 17, 17, 16, 17, 16};
+        int[] cell1 = {16, 0, 16, 0, 0, 0, 16, 0, 16};
+        for (int path = 0; path < 9; path++) {
+            due("its witness", x.witness(path), witnesses[path]);
+            due("its cell 0", x.left(path, 0), cell0[path]);
+            due("its cell 1", x.left(path, 1), cell1[path]);
+        }
+        ContractProbe late = with(INPUT, 0, ASSERT, 0, INPUT, 0, PUSH, 1, ADD, 0, PUSH, 0, STORE, 0);
+        due("input 15 leaves what a fault leaves", late.explore(2), 4);
+        int[][] want = {{0, 16}, {4, 2}, {256, 2}, {260, 2}};
+        for (int path = 0; path < 4; path++) {
+            due("the least one", late.witness(path), want[path][0]);
+            due("its cell", late.left(path, 0), want[path][1]);
+        }
         ContractProbe kept = with(PUSH, 0, LOAD, 0, ASSERT, 0, REVERT, 0);
         due("only faults", kept.explore(2), 1);
         due("cells as they were", kept.left(0, 0), 16);
@@ -364,6 +398,9 @@ public final class PromiseTest {
         due("sum 16", edge.finding(1, 2), 60);
         due("2 - 3", edge.risk(0, 1, 5), 12);
         due("5 * 4 is, 5 * 3 is not", edge.finding(1, 8), 16);
+        ContractProbe sixteen = with(PUSH, 4, INPUT, 0, MUL, 0);
+        sixteen.explore(1);
+        due("4 * 4 is", sixteen.finding(1, 2), 16);
         ContractProbe open = with(DESTROY, 0);
         open.explore(2);
         due("OPEN: caller 1 of the first", open.finding(2, 0), 64);
