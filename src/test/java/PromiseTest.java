@@ -1,34 +1,5 @@
 /** Each promise with examples worked out by hand: ordinary inputs, the edges the document names, wrong inputs. */
-public final class PromiseTest {
-    private static final int PUSH = 0;
-    private static final int INPUT = 1;
-    private static final int CALLER = 2;
-    private static final int DUP = 3;
-    private static final int SWAP = 4;
-    private static final int POP = 5;
-    private static final int ADD = 6;
-    private static final int SUB = 7;
-    private static final int MUL = 8;
-    private static final int AND = 9;
-    private static final int XOR = 10;
-    private static final int LESS = 11;
-    private static final int EQUAL = 12;
-    private static final int ZERO = 13;
-    private static final int LOAD = 14;
-    private static final int STORE = 15;
-    private static final int MARK = 16;
-    private static final int JUMP = 17;
-    private static final int BRANCH = 18;
-    private static final int SEND = 19;
-    private static final int BALANCE = 20;
-    private static final int ASSERT = 21;
-    private static final int STOP = 22;
-    private static final int REVERT = 23;
-    private static final int DESTROY = 24;
-
-    private static final int LOWEST = Integer.MIN_VALUE;
-    private static final int HIGHEST = Integer.MAX_VALUE;
-
+public final class PromiseTest extends Contracts {
     public static void main(String[] args) {
         newObject();
         adding();
@@ -51,23 +22,6 @@ public final class PromiseTest {
         jumps();
         changesBehindTheBack();
         Check.finish();
-    }
-
-    /** A new object with code: pairs of operator and argument. */
-    private static ContractProbe with(int... code) {
-        ContractProbe x = new ContractProbe();
-        append(x, code);
-        return x;
-    }
-
-    private static void append(ContractProbe x, int... code) {
-        for (int i = 0; i + 1 < code.length; i += 2) {
-            x.add(code[i], code[i + 1]);
-        }
-    }
-
-    private static void due(String what, int got, int want) {
-        Check.due(what, got, want);
     }
 
     private static void newObject() {
@@ -230,28 +184,6 @@ public final class PromiseTest {
         due("no code", x.explore(1), 1);
         due("no code: finding", x.finding(0, 29), -1);
         due("no code: risk", x.risk(0, 0, 29), 0);
-    }
-
-    /** Inputs go to marks of their own: the lowest destroy, some stop, the others have no mark and fault. */
-    private static ContractProbe jumpTable(int destroying, int stopping) {
-        ContractProbe x = with(INPUT, 0, JUMP, 0);
-        for (int mark = 0; mark < destroying; mark++) {
-            x.add(MARK, mark);
-        }
-        x.add(DESTROY, 0);
-        for (int mark = destroying; mark < destroying + stopping; mark++) {
-            x.add(MARK, mark);
-        }
-        return x;
-    }
-
-    /** Each of four callers goes another way, then each input 0 to 8, and those above fault. */
-    private static void appendFortyWays(ContractProbe x) {
-        append(x, CALLER, 0, PUSH, 12, ADD, 0, JUMP, 0, MARK, 12, MARK, 13, MARK, 14, MARK, 15);
-        append(x, INPUT, 0, DUP, 0, PUSH, 9, LESS, 0, ASSERT, 0, JUMP, 0);
-        for (int mark = 0; mark < 9; mark++) {
-            x.add(MARK, mark);
-        }
     }
 
     private static void inputsAndWitness() {

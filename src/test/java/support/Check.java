@@ -1,18 +1,33 @@
 /** Counts and prints answers that are not the ones that are due. */
 final class Check {
-    private static final int MOST_PRINTED = 40;
+    /** Of one sentence, or of a test that names none. */
+    private static final int MOST_PRINTED = 20;
     private static int asked = 0;
     private static int wrong = 0;
+    private static int sentences = 0;
+    private static int askedBefore = 0;
+    private static int printed = 0;
+    private static String place = "";
 
     private Check() {
+    }
+
+    /** What is asked from now on tests this sentence of the document. */
+    static void sentence(String text) {
+        endSentence();
+        sentences++;
+        askedBefore = asked;
+        printed = 0;
+        place = "[" + text + "] ";
     }
 
     static void due(String what, long got, long want) {
         asked++;
         if (got != want) {
             wrong++;
-            if (wrong <= MOST_PRINTED) {
-                System.out.println(what + " answered " + got + ", due is " + want);
+            printed++;
+            if (printed <= MOST_PRINTED) {
+                System.out.println(place + what + " answered " + got + ", due is " + want);
             }
         }
     }
@@ -22,9 +37,19 @@ final class Check {
     }
 
     static void finish() {
-        System.out.println(asked + " answers, " + wrong + " not as due");
+        endSentence();
+        String of = sentences == 0 ? "" : " to " + sentences + " sentences";
+        System.out.println(asked + " answers" + of + ", " + wrong + " not as due");
         if (wrong != 0) {
             System.exit(1);
+        }
+    }
+
+    /** A sentence for which nothing was asked is not tested. */
+    private static void endSentence() {
+        if (sentences > 0 && asked == askedBefore) {
+            wrong++;
+            System.out.println(place + "was not tested");
         }
     }
 }
